@@ -310,6 +310,9 @@ public final class PointsAndWishesTest {
         sketch.wish(AT_HINT, 1, 0, 0);
         checks.same("a broken hint moves nothing in x", sketch.x(1), 41);
         checks.same("nor in y", sketch.y(1), 7);
+        sketch.wish(IN_X, 0, 3, 8);
+        checks.same("x of a point that is tied to one at its hint", sketch.x(0), 22);
+        checks.same("which stays there", sketch.x(3), 30);
     }
 
     private static void promise11() {
@@ -327,6 +330,9 @@ public final class PointsAndWishesTest {
         checks.same("y from the point at its hint", sketch.y(1), 32);
         sketch.hint(3, 0, -100);
         checks.same("y from the moved hint", sketch.y(1), -89);
+        sketch.wish(IN_Y, 0, 1, -11);
+        checks.same("y of a point that is tied to these", sketch.y(0), -78);
+        checks.same("y of the point at its hint stays", sketch.y(3), -100);
     }
 
     private static void axesAreApart() {

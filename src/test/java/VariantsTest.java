@@ -6,6 +6,7 @@ public final class VariantsTest {
         promise12();
         promise12Throws();
         promise13();
+        everySizeCanBeTold();
         checks.end();
     }
 
@@ -73,5 +74,13 @@ public final class VariantsTest {
         checks.same("a wish behind it holds by the chosen size", sketch.state(3), PartSketch.IDLE);
         sketch.choose(0);
         checks.same("and is broken by another", sketch.state(3), PartSketch.BROKEN);
+    }
+
+    private static void everySizeCanBeTold() {
+        PartSketch sketch = withThreeWishes();
+        for (int size = -100; size <= 100; size++) {
+            checks.same("a size of the variant", sketch.tell(1, 1, size), 1);
+            checks.same("chosen, size " + size, sketch.choose(1), 1);
+        }
     }
 }
