@@ -35,8 +35,16 @@ final class Checks {
         thrown(what, IllegalStateException.class, call);
     }
 
+    void text(String what, String got, String due) {
+        made++;
+        if (!got.equals(due)) {
+            wrong++;
+            System.out.println(what + "\n  answered " + got + "\n  due is   " + due);
+        }
+    }
+
     /** The very class is due, not one below it: the machine's own exceptions are below some. */
-    private void thrown(String what, Class<? extends RuntimeException> due, Call call) {
+    void thrown(String what, Class<? extends RuntimeException> due, Call call) {
         made++;
         String got = "nothing";
         try {
