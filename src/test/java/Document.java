@@ -59,8 +59,8 @@ final class Document {
         }
     }
 
-    /** Headers of methods are LanguageTest's; lines about comments of the interface bind nothing. */
+    /** The heads of methods are LanguageTest's; lines about comments of the interface bind nothing. */
     private static String untested(String text) {
-        return text.replaceAll("(?m)^`.*$", "").replaceAll("(?m)^Ahead of the calls .*$", "").strip();
+        return text.replaceAll("(?m)^`[^`\n]*`: ", "").replaceAll("(?m)^Ahead of the calls .*$", "").strip();
     }
 }

@@ -50,6 +50,9 @@ public final class ModelTest {
         }
         while (calls < CALLS) {
             change();
+            if (calls == CALLS) {
+                break;
+            }
             look(random.nextInt(8));
             if (random.nextInt(20) == 0) {
                 lookAtAll();

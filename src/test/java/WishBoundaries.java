@@ -182,7 +182,7 @@ final class WishBoundaries {
             checks.same("one off that", sketch.state(19), BROKEN);
             sketch.remove(7);
             checks.same("the chain is cut", sketch.state(14), WORKS);
-            checks.same("and what held round it broke never", sketch.state(15), BROKEN);
+            checks.same("what was broken round it still is", sketch.state(15), BROKEN);
         }
     }
 
