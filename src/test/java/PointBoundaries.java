@@ -138,7 +138,7 @@ final class PointBoundaries {
     private void hintMovesFirstAndLastPoint() {
         document.promise(3, "- `point`: its number");
         PartSketch sketch = Scene.FULL.draw();
-        while (sketch.wishes() > 0) {
+        for (int i = 0; i < Scene.FULL.wishes; i++) {
             sketch.remove(0);
         }
         sketch.hint(0, -100, 100);
