@@ -46,7 +46,12 @@ public final class LanguageTest {
         "\\bimport\\b", "\\bpackage\\b", "->", "::", "\\btry\\b", "\\bcatch\\b", "\\bfinally\\b",
         "\\bassert\\b", "\\bsynchronized\\b", "\\bstatic\\s*\\{", "Exact\\b", "\\bequals\\b",
         "\\bhashCode\\b", "\\btoString\\b", "\\bprotected\\b", "[^\\x00-\\x7e]",
+        "\\bwhile \\(true\\)", ";\\s*;", "\"\\s*\\+", "\\+\\s*\"",
     };
+
+    /** What the class calls of the library, out of what rule 4 lists; one more has to be looked up there. */
+    private static final Set<String> LIBRARY =
+            Set.of("Math.min", "Math.max", "Long.bitCount", "System.arraycopy");
 
     public static void main(String[] args) throws IOException {
         faceStands();
@@ -56,6 +61,8 @@ public final class LanguageTest {
         for (String forbidden : FORBIDDEN) {
             checks.no("the text holds " + forbidden, Pattern.compile(forbidden).matcher(text).find());
         }
+        onlyTheLibraryThatIsListed(text);
+        throwsOnlyOfTheFace(text);
         methodsAreShort(text);
         checks.end();
     }
@@ -145,6 +152,29 @@ public final class LanguageTest {
     private static String bare(String text) {
         String code = text.replaceAll("(?s)/\\*.*?\\*/", "").replaceAll("//[^\n]*", "");
         return code.replaceAll("\"[^\"\n]*\"", "\"\"");
+    }
+
+    /** The class calls nothing of its own by the name of a class. */
+    private static void onlyTheLibraryThatIsListed(String text) {
+        Matcher call = Pattern.compile("\\b[A-Z]\\w*\\.\\w+").matcher(text);
+        while (call.find()) {
+            checks.yes(call.group() + " is of the library that is listed", LIBRARY.contains(call.group()));
+        }
+    }
+
+    /** Rule 6: a new exception, with a written text, of a class that a call of the face may throw. */
+    private static void throwsOnlyOfTheFace(String text) {
+        Set<String> face = Set.of(OUT, ARGUMENT, STATE);
+        Matcher thrown = Pattern.compile("\\bthrow\\b([^;]*);").matcher(text);
+        Pattern form = Pattern.compile(" new (\\w+)\\(\"\"\\)");
+        int found = 0;
+        while (thrown.find()) {
+            found++;
+            Matcher made = form.matcher(thrown.group(1));
+            checks.yes("throw" + thrown.group(1) + " is of the form that is due",
+                    made.matches() && face.contains("java.lang." + made.group(1)));
+        }
+        checks.yes("throws were found", found > 0);
     }
 
     /** A method begins at a line that is indented by one or two levels and ends with a brace. */
